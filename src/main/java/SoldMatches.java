@@ -806,6 +806,9 @@ public final class SoldMatches {
             int here = last;
             for (int i = 0; i < STAKES && here != NOBODY; i++) {
                 int from = reachedFrom[here];
+                if (from == NOBODY) {
+                    return;
+                }
                 int before = partner[from];
                 partner[from] = here;
                 partner[here] = from;

@@ -743,9 +743,9 @@ public final class ModelTest {
     private ModelTest(int seed) {
         this.seed = seed;
         random = new Random(seed);
-        wildness = new int[] {0, 2, 5, 30}[random.nextInt(4)];
+        wildness = seed % 5 == 0 ? 1 : new int[] {0, 2, 5, 30}[random.nextInt(4)];
         hands = 2 + random.nextInt(5);
-        matches = 1 + random.nextInt(12);
+        matches = seed % 5 == 0 ? 12 : 1 + random.nextInt(12);
         kinds = new int[40];
         for (int i = 0; i < 40; i++) {
             kinds[i] = random.nextInt(3) == 0 ? 6 : 1;
@@ -909,7 +909,23 @@ public final class ModelTest {
         }
     }
 
+    /** All that can be full is full: the edges of every row are used. */
+    private void fill() {
+        int[] filling = {1, 9, 13, 22, 27};
+        for (int kind : filling) {
+            for (int i = 0; i < 60; i++) {
+                call(kind);
+            }
+        }
+        while (model.text.length() < 40) {
+            call(32);
+        }
+    }
+
     private void run() {
+        if (seed % 5 == 0) {
+            fill();
+        }
         for (int i = random.nextInt(matches + 1); i > 0; i--) {
             call(1);
         }

@@ -99,6 +99,7 @@ public final class PromisesTest {
         due("both are one", x.match(3, 3, 9), UNKNOWN);
         due("no side", x.match(8, 0, 0), UNKNOWN);
         due("no side", x.match(0, -1, 0), UNKNOWN);
+        due("no side", x.match(0, 8, 0), UNKNOWN);
         due("referee", x.match(0, 1, 6), OUTSIDE);
         due("referee", x.match(0, 1, -1), OUTSIDE);
         due("none yet", x.told(0), 0);
@@ -231,6 +232,8 @@ public final class PromisesTest {
         due("333 less 200", x.lean(0, 5, 0), 133);
         x.price(0, 5, 0, 10000);
         due("10 less 200", x.lean(0, 5, 0), -190);
+        x.price(0, 5, 0, 9091);
+        due("10.9 less 200", x.lean(0, 5, 0), -190);
         x.goal(0, 5, 2);
         due("goals of the quarter itself are not yet there", x.lean(0, 5, 0), -190);
         x.goal(0, 4, 1);
@@ -375,6 +378,7 @@ public final class PromisesTest {
         due("full", x.meet(0, 1, 0), FULL);
         due("outside ahead of full", x.meet(0, 1, 1000), OUTSIDE);
         due("thirty", x.told(2), 30);
+        due("all are gone through", x.knew(0, 1, 9), 999);
     }
 
     private static void knew() {
@@ -667,6 +671,7 @@ public final class PromisesTest {
         due("again", x.take(7, 0), 99);
         due("too many", x.take(7, 100), OUTSIDE);
         due("too few", x.take(7, -1), OUTSIDE);
+        due("a side without a match", x.take(6, 5), 0);
         due("side", x.take(8, 100), UNKNOWN);
         due("side", x.take(-1, 0), UNKNOWN);
         due("kept", x.take(7, 1), 0);
@@ -729,6 +734,8 @@ public final class PromisesTest {
         due("what", x.ofSide(0, -1), REFUSED);
         due("no match", x.ofSide(4, 0), REFUSED);
         due("side", x.ofSide(8, 0), REFUSED);
+        x.match(7, 0, 0);
+        due("the last side", x.ofSide(7, 0), 1);
         due("side", x.ofSide(-1, 0), REFUSED);
     }
 
@@ -792,6 +799,9 @@ public final class PromisesTest {
         sayAll(x, "r>1");
         due("a text", x.rule(), 1);
         due("the new one", x.proof(0, 0), 0);
+        due("forty signs", sayAll(x, "g>1|g>1|g>1|g>1|g>1|g>1|g>1|g>1|g>1|r>00"), 40);
+        due("a text of forty", x.rule(), 1);
+        due("its last test", x.proof(0, 0), 1);
     }
 
     private static int ruled(SoldMatches x, String text, int match) {
@@ -884,6 +894,10 @@ public final class PromisesTest {
         due("purse", x.looks(-1, 0), OUTSIDE);
         due("what", x.looks(0, 2), OUTSIDE);
         due("what", x.looks(0, -1), OUTSIDE);
+        SoldMatches z = withMatches(2);
+        z.price(1, 5, 0, 497);
+        due("201 less 200", z.looks(10, 1), 1);
+        due("a lean of 1 is looked at, one of 0 is not", z.looks(1000, 0), 2);
         SoldMatches y = withMatches(12);
         for (int i = 0; i < 12; i++) {
             y.price(i, 5, 1, 100);
