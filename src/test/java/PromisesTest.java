@@ -241,7 +241,7 @@ public final class PromisesTest {
         x.price(0, 4, 1, 150);
         due("666 less 1000 times .44", x.lean(0, 4, 1), 226);
         x.price(0, 0, 0, 100);
-        due("1000 less 372 (.372048)", x.lean(0, 0, 0), 628);
+        due("1000 less 372 (.372352)", x.lean(0, 0, 0), 628);
         due("quarter", x.lean(0, 6, 0), REFUSED);
         due("end", x.lean(0, 0, 3), REFUSED);
         due("end", x.lean(0, 0, -1), REFUSED);
