@@ -404,6 +404,16 @@ public final class EdgesFirstTest {
         due("the most pairs: 20", x.answer(0, 1, 0), 20);
         due("the most pairs, turned round", x.answer(1, 0, 0), 20);
         due("LIKE with TIES 20", x.answer(0, 1, 1), 1);
+        SoldMatches y = withNumbers(1, 2, 20);
+        int[] ofOne = {1, 3, 5, 5};
+        int[] ofOther = {2, 4, 0, 3};
+        for (int i = 0; i < 4; i++) {
+            y.stake(0, 0, 0, ofOne[i], 10);
+            y.stake(1, 0, 0, ofOther[i], 10);
+        }
+        // both at 5 have none but the one at 4, though others are left when the second of them is looked at
+        due("the most pairs, each STAKE in one at most: 3 of 4", y.answer(0, 1, 0), 3);
+        due("the most pairs, each STAKE in one at most, turned round", y.answer(1, 0, 0), 3);
     }
 
     private static void like() {
@@ -504,6 +514,12 @@ public final class EdgesFirstTest {
         due("by hours", y.knew(0, 0, 3), 12);
         y.meet(0, 3, 20);
         due("the hour by which it is known stays the first", y.knew(0, 0, 3), 12);
+        SoldMatches z = new SoldMatches();
+        z.meet(8, 7, 10);
+        z.meet(9, 8, 9);
+        due("by hours: the last one told is the first", z.knew(9, 0, 8), 9);
+        due("by hours: the first one told is the last", z.knew(9, 0, 7), 10);
+        due("by hours: not from the other end", z.knew(7, 0, 9), NONE);
     }
 
     private static void owners() {
@@ -529,7 +545,7 @@ public final class EdgesFirstTest {
             due("NEWS: at first there is none", x.explained(0, 0), 0);
             due("NEWS: at first there is none, not EXPLAINED", x.explained(0, 1), 1);
             due("a MATCH begins at 0 at first", x.begin(0, 499), 0);
-            x.news(4, 499 + next);
+            due("NEWS is what is asked for from now on: 1", x.news(4, 499 + next), 1);
             due("KNEW by that hour, minute " + minute, x.explained(0, 0), 1);
             due("none that is not, minute " + minute, x.explained(0, 1), 0);
             x.news(4, 500 + next);

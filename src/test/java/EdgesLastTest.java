@@ -357,7 +357,9 @@ public final class EdgesLastTest {
         due("SIDE 5 has no MATCH", x.ofSide(5, 0), REFUSED);
         SoldMatches y = withMatches(8);
         due("all eight", y.table(-1), 8);
-        due("the last of eight", y.table(7), 7);
+        for (int i = 0; i < 8; i++) {
+            due("the i-th of eight, by numbers", y.table(i), i);
+        }
         due("behind the eighth", y.table(8), NONE);
     }
 
@@ -561,6 +563,31 @@ public final class EdgesLastTest {
         due("what -1", x.proof(0, -1), REFUSED);
     }
 
+    /** Facts of unlike values, each tested by texts against the number itself, one less and one more. */
+    private static void factsInTexts() {
+        SoldMatches x = withMatches(7);
+        x.set(3, 1);
+        x.price(0, 5, 0, 300);
+        x.stake(3, 0, 0, 0, 1);
+        x.stake(4, 0, 0, 0, 1);
+        x.stake(5, 0, 0, 89, 1);
+        x.stake(5, 1, 0, 0, 1);
+        x.stake(5, 2, 0, 0, 1);
+        x.news(5, 0);
+        for (int i = 0; i < 5; i++) {
+            x.act(0, 1 << i);
+        }
+        int[] values = {133, 2, 1, 4, 5};
+        for (int i = 0; i < 5; i++) {
+            String fact = "ghxrn".substring(i, i + 1);
+            due("fact " + fact, x.proof(0, i + 1), values[i]);
+            due(fact + " is more than one less", proof(x, fact + ">" + (values[i] - 1)), 1);
+            due(fact + " is not more than itself", proof(x, fact + ">" + values[i]), 0);
+            due(fact + " is not less than itself", proof(x, fact + "<" + values[i]), 0);
+            due(fact + " is less than one more", proof(x, fact + "<" + (values[i] + 1)), 1);
+        }
+    }
+
     private static void looks() {
         SoldMatches x = withMatches(12);
         due("no LEANS above 0", x.looks(1000, 0), 0);
@@ -667,6 +694,7 @@ public final class EdgesLastTest {
         faults();
         proofs();
         facts();
+        factsInTexts();
         looks();
         told();
         manyCalls();
