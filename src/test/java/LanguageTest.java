@@ -2,6 +2,8 @@ import java.io.IOException;
 import java.nio.charset.StandardCharsets;
 import java.nio.file.Files;
 import java.nio.file.Path;
+import java.util.Map;
+import java.util.TreeMap;
 import java.util.regex.Matcher;
 import java.util.regex.Pattern;
 
@@ -70,12 +72,50 @@ public final class LanguageTest {
         }
     }
 
+    /** The text of each method by its name; methods of one name are taken together. */
+    private static Map<String, String> methods(String text) {
+        Matcher m = Pattern.compile("^( {4}| {8})(?:(?:public|private|static) )*(?:int|long|boolean|void) (\\w+)\\([^)]*\\) \\{\n"
+                + "(.*?)^\\1\\}$", Pattern.DOTALL | Pattern.MULTILINE).matcher(text);
+        Map<String, String> found = new TreeMap<>();
+        while (m.find()) {
+            found.merge(m.group(2), m.group(3), String::concat);
+        }
+        return found;
+    }
+
+    /** How many calls stand open at once at most from a method on, itself and the library's counted. */
+    private static int depth(Map<String, String> methods, String name, int open) {
+        if (!methods.containsKey(name) || open > 20) {
+            return 1;
+        }
+        int deepest = 0;
+        Matcher m = Pattern.compile("\\b(?!(?:if|for|while|switch|return)\\b)(\\w+)\\(").matcher(methods.get(name));
+        while (m.find()) {
+            deepest = Math.max(deepest, depth(methods, m.group(1), open + 1));
+        }
+        return deepest + 1;
+    }
+
+    /** Methods that called themselves would go deeper than any bound here, so this finds recursion too. */
+    private static void checkDepths(String text) {
+        Map<String, String> methods = methods(text);
+        if (methods.size() < 40) {
+            wrongAt(1, "methods that this test can not see");
+        }
+        for (String name : methods.keySet()) {
+            if (depth(methods, name, 1) > 8) {
+                wrongAt(1, "calls more than eight deep from " + name);
+            }
+        }
+    }
+
     public static void main(String[] args) throws IOException {
         String text = bare(Files.readString(Path.of(SOURCE), StandardCharsets.UTF_8));
         String[] lines = text.split("\n", -1);
         checkWords(text);
         checkNew(lines);
         checkLengths(lines);
+        checkDepths(text);
         System.out.println(wrong == 0 ? "the language is kept" : wrong + " places are outside the language");
         if (wrong != 0) {
             System.exit(1);
